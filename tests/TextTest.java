@@ -2,8 +2,6 @@ import java.util.NoSuchElementException;
 
 /** Promises 44 to 47. */
 public final class TextTest {
-    private static final String SIXTY = "wind;wind;wind;wind;wind;wind;wind;wind;ballot 10 1>0;spin  ";
-
     public static void main(String[] args) {
         promise44Type();
         promise45ExecuteEachCommand();
@@ -104,16 +102,15 @@ public final class TextTest {
         WindElection e = Scene.withWinds(1);
         Due.answer("twelve commands", 12,
                 () -> Scene.execute(e, "spin;spin;spin;spin;spin;spin;spin;spin;spin;spin;spin;spin"));
-        Due.answer("the spinner after twelve", 15 - 3, () -> e.spinValue());
+        Due.answer("the spinner after twelve", 12, () -> e.spinValue());
         Scene.type(e, "spin;spin;spin;spin;spin;spin;spin;spin;spin;spin;spin;spin;");
         Due.refusal("a text of 60 that ends in ;", IllegalArgumentException.class, () -> e.execute());
         Due.answer("its errorPosition", 60, () -> e.errorPosition());
-        Scene.type(e, SIXTY.substring(0, 58));
-        Due.answer("58 characters", 10, () -> {
-            WindElection other = new WindElection();
-            Scene.type(other, SIXTY.substring(0, 58));
-            return other.execute();
-        });
+        WindElection full = Scene.withWinds(3);
+        String text = "ballot 10 0>1>2;ballot 20 1>2>0;ballot 30 2>0>1;recount 2 31";
+        Due.compare("the length of the longest text", "" + text.length(), "60");
+        Due.answer("a text of 60", 4, () -> Scene.execute(full, text));
+        Due.compare("the state after it", Scene.state(full), "sss||0|10:012|20:120|31:201");
     }
 
     private static void malformed(String text, int position) {

@@ -480,6 +480,7 @@ public final class WindElection {
                 return assembly.reweigh(first, second);
             case SPIN:
                 return assembly.turnSpinner();
+            case CERTIFY:
             default:
                 return seatWinner();
         }
@@ -855,7 +856,7 @@ public final class WindElection {
 
         int windThatWins(int sum, int continuing) {
             for (int wind = 0; wind < MAX_WINDS; wind++) {
-                if (continues(wind) && (continuing == 1 || 2 * votes[wind] > sum)) {
+                if (votes[wind] != OUT && (continuing == 1 || 2 * votes[wind] > sum)) {
                     return wind;
                 }
             }
@@ -865,7 +866,9 @@ public final class WindElection {
         int sumOfVotes() {
             int sum = 0;
             for (int wind = 0; wind < MAX_WINDS; wind++) {
-                sum += votesOf(wind);
+                if (votes[wind] != OUT) {
+                    sum += votes[wind];
+                }
             }
             return sum;
         }
@@ -873,7 +876,7 @@ public final class WindElection {
         int continuingWinds() {
             int continuing = 0;
             for (int wind = 0; wind < MAX_WINDS; wind++) {
-                if (continues(wind)) {
+                if (votes[wind] != OUT) {
                     continuing++;
                 }
             }
@@ -881,9 +884,9 @@ public final class WindElection {
         }
 
         int fewestVotes() {
-            int fewest = Integer.MAX_VALUE;
+            int fewest = NONE;
             for (int wind = 0; wind < MAX_WINDS; wind++) {
-                if (continues(wind) && votes[wind] < fewest) {
+                if (votes[wind] != OUT && (fewest == NONE || votes[wind] < fewest)) {
                     fewest = votes[wind];
                 }
             }
