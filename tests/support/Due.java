@@ -1,42 +1,28 @@
-import java.util.Objects;
-
 /** Compares answers with those that are due, and counts the wrong ones. */
 final class Due {
-    interface Call {
-        Object answer();
-    }
-
-    private static int calls = 0;
+    private static String sentence = "";
+    private static int answers = 0;
     private static int wrong = 0;
 
     private Due() {
     }
 
-    static void answer(String call, Object want, Call made) {
-        String got;
-        try {
-            got = String.valueOf(made.answer());
-        } catch (RuntimeException e) {
-            got = "throws." + e.getClass().getSimpleName();
-        }
-        compare(call, got, Objects.toString(want));
+    /** What the answers from now on are about; told with each wrong one. */
+    static void about(String newSentence) {
+        sentence = newSentence;
     }
 
-    static void refusal(String call, Class<? extends RuntimeException> want, Call made) {
-        answer(call, "throws." + want.getSimpleName(), made);
-    }
-
-    static void compare(String call, String got, String want) {
-        calls++;
+    static void compare(String what, String got, String want) {
+        answers++;
         if (!got.equals(want)) {
             wrong++;
-            System.out.println(call + " answered " + got + ", due is " + want);
+            System.out.println(sentence + "\n  " + what + " answered " + got + ", due is " + want);
         }
     }
 
     static void finish() {
-        System.out.println(calls + " answers, " + wrong + " of them wrong");
-        if (wrong != 0 || calls == 0) {
+        System.out.println(answers + " answers, " + wrong + " of them wrong");
+        if (wrong != 0 || answers == 0) {
             System.exit(1);
         }
     }
