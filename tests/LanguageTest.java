@@ -164,6 +164,8 @@ public final class LanguageTest extends TreePathScanner<Void, Void> {
         if (!isThrown) {
             rule(4, tree, "is a class inside", Source.isOwn(made));
             rule(12, tree, "is made in a constructor", isInConstructor());
+            rule(12, tree, "is given nothing but literals",
+                    tree.getArguments().stream().allMatch(LiteralTree.class::isInstance));
             calls.add(caller(), Source.name(made));
         }
         rule(2, tree, "has no body of its own", tree.getClassBody() == null || isEnumConstant());

@@ -26,8 +26,7 @@ public final class WindElection {
     private final Piles piles = new Piles();
     private final int[] scores = new int[MAX_WINDS];
     private final Text line = new Text();
-    private final Text buffer = new Text();
-    private final Reader reader = new Reader(buffer);
+    private final Reader reader = new Reader();
     private int lastErrorPosition = NONE;
     private int lastFailedCommand = NONE;
 
@@ -306,16 +305,16 @@ public final class WindElection {
         if (character < 32 || character > 126) {
             throw new IllegalArgumentException("the character is not from 32 to 126");
         }
-        if (!buffer.append(character)) {
+        if (!reader.text.append(character)) {
             throw new IllegalStateException("the buffer contains 60 characters");
         }
-        return buffer.length;
+        return reader.text.length;
     }
 
     public int execute() throws IllegalArgumentException, IllegalStateException {
         int commands = reader.countCommands();
         int failed = commands == NONE ? NONE : carryOutAll(commands);
-        buffer.clear();
+        reader.text.clear();
         if (commands == NONE) {
             lastErrorPosition = reader.position;
             throw new IllegalArgumentException("the text is malformed");
@@ -1078,18 +1077,14 @@ public final class WindElection {
         }
     }
 
-    /** Reads a text command by command; where it can't read on, its position is the error position. */
+    /** Reads the text buffer command by command; where it can't read on, its position is the error position. */
     private static final class Reader {
-        final Text text;
+        final Text text = new Text();
         int position = 0;
         Word word = Word.WIND;
         /** No command has more: each takes two characters of the text at least. */
         final int[] numbers = new int[MAX_TEXT / 2];
         int numberCount = 0;
-
-        Reader(Text text) {
-            this.text = text;
-        }
 
         void rewind() {
             position = 0;
